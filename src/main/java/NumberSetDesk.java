@@ -1,4 +1,9 @@
-/** A desk with eight sets of numbers. The promises that the comments name are those of ../shared/DOC.md. */
+/**
+ * A desk with eight sets of numbers, as ../shared/DOC.md tells it.
+ *
+ * The sets are rows of words of their own, as LANGUAGE.md leaves no java.util.BitSet. All rows are made with the
+ * desk and used again, so that no call makes an object but the exception that it throws.
+ */
 public final class NumberSetDesk {
     public static final int NONE = -1;
 
@@ -25,10 +30,10 @@ public final class NumberSetDesk {
         }
         sets[0].include(0, 10);
         for (int even = 0; even <= 18; even += 2) {
-            sets[1].include(even, even + 1);
+            sets[1].includeOne(even);
         }
         for (int index : FIRST_OF_SET_2) {
-            sets[2].include(index, index + 1);
+            sets[2].includeOne(index);
         }
         tape = new Tape();
         script = new Script();
@@ -82,16 +87,14 @@ public final class NumberSetDesk {
     public boolean add(int set, int index) throws IllegalArgumentException, IndexOutOfBoundsException {
         Members members = setToFillAt(set, index);
         boolean wasMember = members.holds(index);
-        members.include(index, index + 1);
+        members.includeOne(index);
         return !wasMember;
     }
 
     public boolean remove(int set, int index) throws IllegalArgumentException, IndexOutOfBoundsException {
         Members members = setAskedAt(set, index, 0);
         boolean wasMember = members.holds(index);
-        if (wasMember) {
-            members.exclude(index, index + 1);
-        }
+        members.excludeOne(index);
         return wasMember;
     }
 
@@ -99,14 +102,15 @@ public final class NumberSetDesk {
             throws IllegalArgumentException, IndexOutOfBoundsException {
         Members members = setToFillAt(set, index);
         boolean wasMember = members.holds(index);
-        members.decide(index, index + 1, isMember);
+        members.decideOne(index, isMember);
         return wasMember;
     }
 
     public boolean flip(int set, int index) throws IllegalArgumentException, IndexOutOfBoundsException {
         Members members = setToFillAt(set, index);
-        members.toggle(index, index + 1);
-        return members.holds(index);
+        boolean isMember = !members.holds(index);
+        members.decideOne(index, isMember);
+        return isMember;
     }
 
     public int addRange(int set, int from, int to) throws IllegalArgumentException, IndexOutOfBoundsException {
@@ -428,7 +432,7 @@ public final class NumberSetDesk {
     }
 
     private int doStatements() {
-        for (int n = 0; n < script.statements(); n++) {
+        for (int n = 0; n < script.statements() && n < Script.MOST_STATEMENTS; n++) {
             Statement statement = script.statement(n);
             if (statement.first > statement.second) {
                 refusals++;
@@ -489,6 +493,26 @@ public final class NumberSetDesk {
 
         boolean holds(int index) {
             return (word(index >> 6) >>> (index & 63) & 1L) != 0L;
+        }
+
+        void includeOne(int index) {
+            if (index >= 0 && index < LIMIT) {
+                words[index >> 6] |= 1L << (index & 63);
+            }
+        }
+
+        void excludeOne(int index) {
+            if (index >= 0 && index < LIMIT) {
+                words[index >> 6] &= ~(1L << (index & 63));
+            }
+        }
+
+        void decideOne(int index, boolean isMember) {
+            if (isMember) {
+                includeOne(index);
+            } else {
+                excludeOne(index);
+            }
         }
 
         void include(int from, int to) {
@@ -570,7 +594,7 @@ public final class NumberSetDesk {
 
         private void excludeMultiples(int factor, int below) {
             for (int times = factor; times * factor < below; times++) {
-                exclude(times * factor, times * factor + 1);
+                excludeOne(times * factor);
             }
         }
 
@@ -790,7 +814,7 @@ public final class NumberSetDesk {
         }
     }
 
-    /** Reads the tokens of a tape; a token of one sign is of the kind that is this sign. */
+    /** The tokens of a text, in their order; a token of one sign is of the kind that is this sign. */
     private static final class Tokens {
         static final int END = 0;
         static final int NO_TOKEN = 1;
@@ -799,53 +823,80 @@ public final class NumberSetDesk {
         static final int TWO_POINTS = 4;
         private static final int MOST_DIGITS = 4;
 
-        private Tape tape;
-        private int behind;
-        int start;
-        int kind;
-        int value;
+        private final int[] kinds = new int[TAPE_LIMIT];
+        private final int[] values = new int[TAPE_LIMIT];
+        private final int[] starts = new int[TAPE_LIMIT];
+        private int count = 0;
+        private int place = 0;
+        private int textSize = 0;
 
-        Tokens(Tape tape) {
-            this.tape = tape;
+        /** Reads all tokens of a text, and goes to the first of them. */
+        void readAll(Tape tape) {
+            count = 0;
+            place = 0;
+            textSize = tape.size();
+            int behind = 0;
+            for (int start = 0; start < textSize; start++) {
+                if (start >= behind && !isBlank(tape.sign(start))) {
+                    behind = start + readOne(tape, start);
+                }
+            }
         }
 
-        void begin(Tape newTape) {
-            tape = newTape;
-            behind = 0;
-            advance();
+        int kind() {
+            return place >= 0 && place < count && place < TAPE_LIMIT ? kinds[place] : END;
         }
 
-        /** Reads one token more. */
+        int value() {
+            return place >= 0 && place < count && place < TAPE_LIMIT ? values[place] : 0;
+        }
+
+        int start() {
+            return place >= 0 && place < count && place < TAPE_LIMIT ? starts[place] : textSize;
+        }
+
         void advance() {
-            start = behind;
-            while (start < tape.size() && isBlank(tape.sign(start))) {
-                start++;
-            }
-            char sign = tape.sign(start);
-            behind = start + 1;
-            value = 0;
-            if (start >= tape.size()) {
-                kind = END;
-            } else if (isDigit(sign)) {
-                readNumber();
-            } else if (sign >= 'a' && sign <= 'h') {
-                kind = SET;
-                value = sign - 'a';
-            } else if (sign == '.' && tape.sign(start + 1) == '.') {
-                kind = TWO_POINTS;
-                behind = start + 2;
-            } else {
-                kind = isSign(sign) ? sign : NO_TOKEN;
-            }
+            place++;
         }
 
-        private void readNumber() {
-            behind = start;
-            while (behind < tape.size() && isDigit(tape.sign(behind))) {
-                value = 10 * value + (tape.sign(behind) - '0');
+        /** Answers how many bytes the token takes. */
+        private int readOne(Tape tape, int start) {
+            char sign = tape.sign(start);
+            if (isDigit(sign)) {
+                return readNumber(tape, start);
+            }
+            if (sign >= 'a' && sign <= 'h') {
+                keep(SET, sign - 'a', start);
+                return 1;
+            }
+            if (sign == '.' && tape.sign(start + 1) == '.') {
+                keep(TWO_POINTS, 0, start);
+                return 2;
+            }
+            keep(isSign(sign) ? sign : NO_TOKEN, 0, start);
+            return 1;
+        }
+
+        private int readNumber(Tape tape, int start) {
+            int number = 0;
+            int behind = start;
+            while (behind < textSize && isDigit(tape.sign(behind))) {
+                // a number that is too great stays too great, however many digits follow
+                number = Math.min(10 * number + (tape.sign(behind) - '0'), LIMIT);
                 behind++;
             }
-            kind = behind - start <= MOST_DIGITS && value <= GREATEST ? NUMBER : NO_TOKEN;
+            boolean isNumber = behind - start <= MOST_DIGITS && number <= GREATEST;
+            keep(isNumber ? NUMBER : NO_TOKEN, number, start);
+            return behind - start;
+        }
+
+        private void keep(int kind, int value, int start) {
+            if (count >= 0 && count < TAPE_LIMIT) {
+                kinds[count] = kind;
+                values[count] = value;
+                starts[count] = start;
+                count++;
+            }
         }
 
         private static boolean isBlank(char sign) {
@@ -874,7 +925,7 @@ public final class NumberSetDesk {
         private static final int SHORTEST_STATEMENT = 4;
         private static final int MOST_STATEMENTS = TAPE_LIMIT / SHORTEST_STATEMENT;
 
-        private final Tokens tokens = new Tokens(new Tape());
+        private final Tokens tokens = new Tokens();
         private final Statement[] statements = new Statement[MOST_STATEMENTS];
         private final int[] listed = new int[TAPE_LIMIT];
         private int statementCount = 0;
@@ -898,7 +949,7 @@ public final class NumberSetDesk {
         void fill(Members target, int from, int to) {
             target.clear();
             for (int place = from; place < to && place < TAPE_LIMIT; place++) {
-                target.include(listed[place], listed[place] + 1);
+                target.includeOne(listed[place]);
             }
         }
 
@@ -906,10 +957,10 @@ public final class NumberSetDesk {
         int read(Tape tape) {
             statementCount = 0;
             listedCount = 0;
-            tokens.begin(tape);
-            for (int n = 0; n < MOST_STATEMENTS && tokens.kind != Tokens.END; n++) {
+            tokens.readAll(tape);
+            for (int n = 0; n < MOST_STATEMENTS && tokens.kind() != Tokens.END; n++) {
                 if (!readStatement(statements[n])) {
-                    return tokens.start;
+                    return tokens.start();
                 }
                 statementCount++;
             }
@@ -917,28 +968,28 @@ public final class NumberSetDesk {
         }
 
         private boolean readStatement(Statement statement) {
-            if (tokens.kind != Tokens.SET) {
+            if (tokens.kind() != Tokens.SET) {
                 return false;
             }
-            statement.target = tokens.value;
+            statement.target = tokens.value();
             tokens.advance();
             return readAction(statement) && pass(';');
         }
 
         private boolean readAction(Statement statement) {
-            int sign = tokens.kind;
+            int sign = tokens.kind();
             statement.action = sign;
             if (pass('+') || pass('-') || pass('^')) {
                 return readRange(statement);
             }
             if (pass('=')) {
-                return tokens.kind == '[' ? readList(statement) : readSet(statement);
+                return tokens.kind() == '[' ? readList(statement) : readSet(statement);
             }
             return (pass('&') || pass('|') || pass('~') || pass('!')) && readSet(statement);
         }
 
         private boolean readRange(Statement statement) {
-            statement.first = tokens.value;
+            statement.first = tokens.value();
             // one number alone is the range of itself
             statement.second = statement.first + 1;
             if (!pass(Tokens.NUMBER)) {
@@ -947,13 +998,13 @@ public final class NumberSetDesk {
             if (!pass(Tokens.TWO_POINTS)) {
                 return true;
             }
-            statement.second = tokens.value;
+            statement.second = tokens.value();
             return pass(Tokens.NUMBER);
         }
 
         private boolean readSet(Statement statement) {
-            statement.first = tokens.value;
-            statement.second = tokens.value;
+            statement.first = tokens.value();
+            statement.second = tokens.value();
             return pass(Tokens.SET);
         }
 
@@ -967,7 +1018,7 @@ public final class NumberSetDesk {
             }
             // each number takes a byte of the tape, so that the bound is never met
             for (int n = listedCount; n < TAPE_LIMIT; n++) {
-                listed[n] = tokens.value;
+                listed[n] = tokens.value();
                 if (!pass(Tokens.NUMBER)) {
                     return false;
                 }
@@ -981,7 +1032,7 @@ public final class NumberSetDesk {
         }
 
         private boolean pass(int kind) {
-            if (tokens.kind != kind) {
+            if (tokens.kind() != kind) {
                 return false;
             }
             tokens.advance();
