@@ -1,5 +1,8 @@
+import java.util.function.ObjIntConsumer;
+
 /** What the tests of the project share: it counts the answers that are not due, and tells each of them. */
 final class Checks {
+    static final int[] NO_SETS = {-1, 8, Integer.MIN_VALUE, Integer.MAX_VALUE};
     private static final int SETS = 8;
 
     private final String test;
@@ -43,10 +46,15 @@ final class Checks {
         due(call + " leaves", before, stateOf(desk));
     }
 
-    /** The same for each of several sets that are not there. */
-    void noSuchSet(String call, NumberSetDesk desk, java.util.function.IntConsumer run) {
-        for (int set : new int[] {-1, 8, Integer.MIN_VALUE, Integer.MAX_VALUE}) {
-            refused(call + " with set " + set, desk, IllegalArgumentException.class, 0, () -> run.accept(set));
+    /** The same for each of several sets that are not there, on a new desk for each. */
+    void noSuchSet(String call, ObjIntConsumer<NumberSetDesk> run) {
+        for (int set : NO_SETS) {
+            NumberSetDesk desk = new NumberSetDesk();
+            type(desk, "a+1..0;");
+            desk.run();
+            type(desk, "d+1;");
+            desk.write(1);
+            refused(call + " with set " + set, desk, IllegalArgumentException.class, 0, () -> run.accept(desk, set));
         }
     }
 
@@ -60,14 +68,11 @@ final class Checks {
         due(call + " throws", kind.getName(), thrown);
     }
 
-    /** All that can be asked without a change, but for the number of refusals. */
+    /** What tells the state but for the number of refusals, by few calls: a desk is used for 512 at most. */
     static String stateOf(NumberSetDesk desk) {
         StringBuilder state = new StringBuilder();
         for (int set = 0; set < SETS; set++) {
-            for (int k = 0; k < desk.wordCount(set); k++) {
-                state.append(Long.toHexString(desk.wordAt(set, k))).append(' ');
-            }
-            state.append("; ");
+            state.append(desk.count(set)).append(' ').append(desk.fingerprint(set)).append("; ");
         }
         state.append("tape ").append(desk.append(0, 0, 0, 0, 0));
         state.append(" error ").append(desk.errorPosition()).append(" stopped ").append(desk.stoppedAt());

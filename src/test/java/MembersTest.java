@@ -30,13 +30,10 @@ public final class MembersTest {
     }
 
     private static void refusesIndexes(String name, IndexCall call, boolean isFilling) {
-        NumberSetDesk desk = new NumberSetDesk();
-        for (int set : new int[] {-1, 8, MIN, MAX}) {
-            for (int index : new int[] {-1, 0, 1023, 1024}) {
-                CHECKS.refused(name + "(" + set + ", " + index + ")", desk, ARGUMENT, 0,
-                        () -> call.on(desk, set, index));
-            }
+        for (int index : new int[] {-1, 0, 1023, 1024}) {
+            CHECKS.noSuchSet(name + "(.., " + index + ")", (x, set) -> call.on(x, set, index));
         }
+        NumberSetDesk desk = new NumberSetDesk();
         for (int index : new int[] {-1, MIN}) {
             CHECKS.refused(name + "(0, " + index + ")", desk, INDEX, 1, () -> call.on(desk, 0, index));
         }
@@ -51,11 +48,9 @@ public final class MembersTest {
     }
 
     private static void refusesRanges(String name, RangeCall call, boolean isFilling) {
+        CHECKS.noSuchSet(name + "(.., 1, 2)", (x, set) -> call.on(x, set, 1, 2));
+        CHECKS.noSuchSet(name + "(.., 2, 1)", (x, set) -> call.on(x, set, 2, 1));
         NumberSetDesk desk = new NumberSetDesk();
-        for (int set : new int[] {-1, 8, MIN, MAX}) {
-            CHECKS.refused(name + "(" + set + ", 1, 2)", desk, ARGUMENT, 0, () -> call.on(desk, set, 1, 2));
-            CHECKS.refused(name + "(" + set + ", 2, 1)", desk, ARGUMENT, 0, () -> call.on(desk, set, 2, 1));
-        }
         for (int[] range : NO_RANGES) {
             CHECKS.refused(name + "(0, " + range[0] + ", " + range[1] + ")", desk, INDEX, 1,
                     () -> call.on(desk, 0, range[0], range[1]));
@@ -63,9 +58,10 @@ public final class MembersTest {
         CHECKS.due("refusals() after " + name, NO_RANGES.length, desk.refusals());
         if (isFilling) {
             for (int from : new int[] {-1, 0, 1024, 1025, 2000, MAX}) {
-                CHECKS.refused(name + "(0, " + from + ", 1025)", desk, ARGUMENT, 0,
-                        () -> call.on(desk, 0, from, 1025));
-                CHECKS.refused(name + "(0, " + from + ", MAX)", desk, ARGUMENT, 0, () -> call.on(desk, 0, from, MAX));
+                NumberSetDesk other = new NumberSetDesk();
+                CHECKS.refused(name + "(0, " + from + ", 1025)", other, ARGUMENT, 0,
+                        () -> call.on(other, 0, from, 1025));
+                CHECKS.refused(name + "(0, " + from + ", MAX)", other, ARGUMENT, 0, () -> call.on(other, 0, from, MAX));
             }
         } else {
             CHECKS.refused(name + "(0, MAX, 1025)", desk, INDEX, 1, () -> call.on(desk, 0, MAX, 1025));
@@ -94,6 +90,9 @@ public final class MembersTest {
         CHECKS.due("remove(2, 128)", true, desk.remove(2, 128));
         CHECKS.due("remove(2, 1026)", false, desk.remove(2, 1026));
         CHECKS.members("remove()", desk, 2, 1, 2, 3, 5, 8, 13, 21, 63, 127);
+        CHECKS.due("remove(0, 0)", true, desk.remove(0, 0));
+        CHECKS.members("remove()", desk, 0, 1, 2, 3, 4, 5, 6, 7, 8, 9);
+        CHECKS.due("refusals() after remove()", 0, desk.refusals());
         refusesIndexes("remove", NumberSetDesk::remove, false);
     }
 
@@ -184,7 +183,7 @@ public final class MembersTest {
         desk.addRange(4, 0, 1024);
         CHECKS.due("removeAll(4)", 1024, desk.removeAll(4));
         CHECKS.due("length(4)", 0, desk.length(4));
-        CHECKS.noSuchSet("removeAll()", desk, desk::removeAll);
+        CHECKS.noSuchSet("removeAll()", NumberSetDesk::removeAll);
     }
 
     private static void promise16Renew() {
@@ -197,11 +196,12 @@ public final class MembersTest {
         desk.copy(3, 0);
         CHECKS.due("renew(0, 5)", 10, desk.renew(0, 5));
         CHECKS.due("count(3), a copy of 0", 10, desk.count(3));
+        CHECKS.due("refusals() after renew()", 0, desk.refusals());
         CHECKS.refused("renew(1, -1)", desk, ARGUMENT, 1, () -> desk.renew(1, -1));
         CHECKS.refused("renew(1, MIN)", desk, ARGUMENT, 1, () -> desk.renew(1, MIN));
         CHECKS.refused("renew(1, 1025)", desk, ARGUMENT, 0, () -> desk.renew(1, 1025));
         CHECKS.refused("renew(1, MAX)", desk, ARGUMENT, 0, () -> desk.renew(1, MAX));
-        CHECKS.noSuchSet("renew()", desk, set -> desk.renew(set, 5));
-        CHECKS.noSuchSet("renew() for -1", desk, set -> desk.renew(set, -1));
+        CHECKS.noSuchSet("renew()", (x, set) -> x.renew(set, 5));
+        CHECKS.noSuchSet("renew() for -1", (x, set) -> x.renew(set, -1));
     }
 }

@@ -35,19 +35,18 @@ public final class QuestionsTest {
     }
 
     private static void refusesIndexes(String name, IndexCall call, int... indexes) {
-        NumberSetDesk desk = new NumberSetDesk();
         for (int index : indexes) {
+            NumberSetDesk desk = new NumberSetDesk();
             CHECKS.refused(name + "(0, " + index + ")", desk, INDEX, 1, () -> call.on(desk, 0, index));
-            CHECKS.noSuchSet(name + "(.., " + index + ")", desk, set -> call.on(desk, set, index));
+            CHECKS.noSuchSet(name + "(.., " + index + ")", (x, set) -> call.on(x, set, index));
         }
-        CHECKS.noSuchSet(name + "(.., 5)", desk, set -> call.on(desk, set, 5));
+        CHECKS.noSuchSet(name + "(.., 5)", (x, set) -> call.on(x, set, 5));
     }
 
     private static void refusesSets(String name, PairCall call) {
-        NumberSetDesk desk = new NumberSetDesk();
-        CHECKS.noSuchSet(name + " of a set", desk, set -> call.on(desk, set, 1));
-        CHECKS.noSuchSet(name + " with a set", desk, other -> call.on(desk, 0, other));
-        CHECKS.noSuchSet(name + " of both", desk, both -> call.on(desk, both, both));
+        CHECKS.noSuchSet(name + " of a set", (x, set) -> call.on(x, set, 1));
+        CHECKS.noSuchSet(name + " with a set", (x, other) -> call.on(x, 0, other));
+        CHECKS.noSuchSet(name + " of both", (x, both) -> call.on(x, both, both));
     }
 
     private static NumberSetDesk fullAt3() {
@@ -88,9 +87,9 @@ public final class QuestionsTest {
         CHECKS.due("length(4) of 1023", 1024, desk.length(4));
         desk.remove(4, 1023);
         CHECKS.due("length(4) after remove()", 1, desk.length(4));
-        CHECKS.noSuchSet("count()", desk, desk::count);
-        CHECKS.noSuchSet("length()", desk, desk::length);
-        CHECKS.noSuchSet("isEmpty()", desk, desk::isEmpty);
+        CHECKS.noSuchSet("count()", NumberSetDesk::count);
+        CHECKS.noSuchSet("length()", NumberSetDesk::length);
+        CHECKS.noSuchSet("isEmpty()", NumberSetDesk::isEmpty);
     }
 
     private static void promise34CountIn() {
@@ -109,8 +108,8 @@ public final class QuestionsTest {
             CHECKS.refused("countIn(0, " + range[0] + ", " + range[1] + ")", desk, INDEX, 1,
                     () -> desk.countIn(0, range[0], range[1]));
         }
-        CHECKS.noSuchSet("countIn()", desk, set -> desk.countIn(set, 1, 2));
-        CHECKS.noSuchSet("countIn() of no range", desk, set -> desk.countIn(set, 2, 1));
+        CHECKS.noSuchSet("countIn()", (x, set) -> x.countIn(set, 1, 2));
+        CHECKS.noSuchSet("countIn() of no range", (x, set) -> x.countIn(set, 2, 1));
     }
 
     private static void promise37IsRoomy() {
@@ -120,7 +119,7 @@ public final class QuestionsTest {
         }
         desk.renew(3, 0);
         CHECKS.due("isRoomy(3) made for 0", true, desk.isRoomy(3));
-        CHECKS.noSuchSet("isRoomy()", desk, desk::isRoomy);
+        CHECKS.noSuchSet("isRoomy()", NumberSetDesk::isRoomy);
     }
 
     private static void promise38Next() {
@@ -199,8 +198,8 @@ public final class QuestionsTest {
         }
         CHECKS.due("memberAt(4, 0)", NONE, desk.memberAt(4, 0));
         CHECKS.due("refusals()", 0, desk.refusals());
-        CHECKS.noSuchSet("memberAt(.., 0)", desk, set -> desk.memberAt(set, 0));
-        CHECKS.noSuchSet("memberAt(.., -1)", desk, set -> desk.memberAt(set, -1));
+        CHECKS.noSuchSet("memberAt(.., 0)", (x, set) -> x.memberAt(set, 0));
+        CHECKS.noSuchSet("memberAt(.., -1)", (x, set) -> x.memberAt(set, -1));
     }
 
     private static void promise43Sum() {
@@ -209,7 +208,7 @@ public final class QuestionsTest {
         CHECKS.due("sum(2)", 435, desk.sum(2));
         CHECKS.due("sum(3)", 523776, desk.sum(3));
         CHECKS.due("sum(4)", 0, desk.sum(4));
-        CHECKS.noSuchSet("sum()", desk, desk::sum);
+        CHECKS.noSuchSet("sum()", NumberSetDesk::sum);
     }
 
     private static void promise44And45Runs() {
@@ -235,8 +234,8 @@ public final class QuestionsTest {
         desk.add(5, 1023);
         CHECKS.due("runs(5) of 1023", 1, desk.runs(5));
         CHECKS.due("longestRun(5) of 1023", 1023, desk.longestRun(5));
-        CHECKS.noSuchSet("runs()", desk, desk::runs);
-        CHECKS.noSuchSet("longestRun()", desk, desk::longestRun);
+        CHECKS.noSuchSet("runs()", NumberSetDesk::runs);
+        CHECKS.noSuchSet("longestRun()", NumberSetDesk::longestRun);
     }
 
     private static void promise46AreEqual() {

@@ -22,10 +22,9 @@ public final class SetsWithSetsTest {
     }
 
     private static void refusesSets(String name, PairCall call) {
-        NumberSetDesk desk = new NumberSetDesk();
-        CHECKS.noSuchSet(name + " of a set", desk, set -> call.on(desk, set, 1));
-        CHECKS.noSuchSet(name + " with a set", desk, other -> call.on(desk, 0, other));
-        CHECKS.noSuchSet(name + " of both", desk, both -> call.on(desk, both, both));
+        CHECKS.noSuchSet(name + " of a set", (x, set) -> call.on(x, set, 1));
+        CHECKS.noSuchSet(name + " with a set", (x, other) -> call.on(x, 0, other));
+        CHECKS.noSuchSet(name + " of both", (x, both) -> call.on(x, both, both));
     }
 
     private static void promise17Intersect() {
@@ -137,7 +136,7 @@ public final class SetsWithSetsTest {
         for (int by : new int[] {1024, -1024, MIN, MAX}) {
             CHECKS.refused("shift(1, " + by + ")", desk, ARGUMENT, 0, () -> desk.shift(1, by));
         }
-        CHECKS.noSuchSet("shift()", desk, set -> desk.shift(set, 1));
+        CHECKS.noSuchSet("shift()", (x, set) -> x.shift(set, 1));
     }
 
     private static void promise24Sieve() {
@@ -158,6 +157,6 @@ public final class SetsWithSetsTest {
         for (int below : new int[] {-1, 1025, MIN, MAX}) {
             CHECKS.refused("sieve(0, " + below + ")", desk, ARGUMENT, 0, () -> desk.sieve(0, below));
         }
-        CHECKS.noSuchSet("sieve()", desk, set -> desk.sieve(set, 10));
+        CHECKS.noSuchSet("sieve()", (x, set) -> x.sieve(set, 10));
     }
 }

@@ -39,8 +39,14 @@ public final class TapeTest {
         checks.refused("append() of 2 to 399", desk, IllegalStateException.class, 0,
                 () -> desk.append(0, 0x61, 0, 0x62, 0));
         checks.due("append() to 400", 400, desk.append(0, 0, 0, 0, 0x61));
-        checks.refused("append() of 1 to 400", desk, IllegalStateException.class, 0,
-                () -> desk.append(0x01000000, 0, 0, 0, 0));
+        for (int shift = 0; shift < 32; shift++) {
+            int one = 1 << shift;
+            checks.throwing("append() of a", IllegalStateException.class, () -> desk.append(one, 0, 0, 0, 0));
+            checks.throwing("append() of b", IllegalStateException.class, () -> desk.append(0, one, 0, 0, 0));
+            checks.throwing("append() of c", IllegalStateException.class, () -> desk.append(0, 0, one, 0, 0));
+            checks.throwing("append() of d", IllegalStateException.class, () -> desk.append(0, 0, 0, one, 0));
+            checks.throwing("append() of e", IllegalStateException.class, () -> desk.append(0, 0, 0, 0, one));
+        }
         checks.due("append() of nothing to 400", 400, desk.append(0, 0, 0, 0, 0));
         checks.due("clearTape()", 400, desk.clearTape());
     }

@@ -25,7 +25,7 @@ public final class WordsAndBytesTest {
         CHECKS.members("loadWords()", desk, 3, 191);
         CHECKS.due("loadWords(3, 0, 0, 0)", 0, desk.loadWords(3, 0, 0, 0));
         CHECKS.members("loadWords()", desk, 3);
-        CHECKS.noSuchSet("loadWords()", desk, set -> desk.loadWords(set, 1, 2, 3));
+        CHECKS.noSuchSet("loadWords()", (x, set) -> x.loadWords(set, 1, 2, 3));
     }
 
     private static void promise26LoadTape() {
@@ -38,13 +38,16 @@ public final class WordsAndBytesTest {
         CHECKS.due("loadTape(3) without bytes", 0, desk.loadTape(3));
         CHECKS.members("loadTape()", desk, 3);
         CHECKS.due("append() of 128", 128, Checks.type(desk, "\u0001".repeat(127) + "\u0080"));
-        CHECKS.noSuchSet("loadTape()", desk, desk::loadTape);
+        CHECKS.noSuchSet("loadTape()", NumberSetDesk::loadTape);
         CHECKS.due("loadTape(3) of 128", 1024, desk.loadTape(3));
         CHECKS.due("count(3)", 128, desk.count(3));
         CHECKS.due("next(3, 1009)", 1023, desk.next(3, 1009));
         Checks.type(desk, "x".repeat(129));
         CHECKS.refused("loadTape(3) of 129", desk, IllegalStateException.class, 0, () -> desk.loadTape(3));
-        CHECKS.noSuchSet("loadTape() of 129", desk, desk::loadTape);
+        for (int set : Checks.NO_SETS) {
+            CHECKS.refused("loadTape(" + set + ") of 129", desk, IllegalArgumentException.class, 0,
+                    () -> desk.loadTape(set));
+        }
         CHECKS.due("clearTape()", 129, desk.clearTape());
     }
 
@@ -70,8 +73,8 @@ public final class WordsAndBytesTest {
         }
         CHECKS.refused("wordAt(3, 16)", desk, INDEX, 0, () -> desk.wordAt(3, 16));
         CHECKS.refused("wordAt(4, 0)", desk, INDEX, 0, () -> desk.wordAt(4, 0));
-        CHECKS.noSuchSet("wordCount()", desk, desk::wordCount);
-        CHECKS.noSuchSet("wordAt(.., -1)", desk, set -> desk.wordAt(set, -1));
+        CHECKS.noSuchSet("wordCount()", NumberSetDesk::wordCount);
+        CHECKS.noSuchSet("wordAt(.., -1)", (x, set) -> x.wordAt(set, -1));
         desk.remove(3, 1023);
         CHECKS.due("wordCount(3) after remove()", 2, desk.wordCount(3));
     }
@@ -97,8 +100,8 @@ public final class WordsAndBytesTest {
         }
         CHECKS.refused("byteAt(3, 128)", desk, INDEX, 0, () -> desk.byteAt(3, 128));
         CHECKS.refused("byteAt(4, 0)", desk, INDEX, 0, () -> desk.byteAt(4, 0));
-        CHECKS.noSuchSet("byteCount()", desk, desk::byteCount);
-        CHECKS.noSuchSet("byteAt(.., -1)", desk, set -> desk.byteAt(set, -1));
+        CHECKS.noSuchSet("byteCount()", NumberSetDesk::byteCount);
+        CHECKS.noSuchSet("byteAt(.., -1)", (x, set) -> x.byteAt(set, -1));
     }
 
     private static void promise31Fingerprint() {
@@ -109,6 +112,8 @@ public final class WordsAndBytesTest {
         CHECKS.due("fingerprint(3) of word 1", 1234 ^ 6, desk.fingerprint(3));
         desk.loadWords(3, 1L << 40, 0, 0);
         CHECKS.due("fingerprint(3) of bit 40", 1234 ^ 256, desk.fingerprint(3));
+        desk.loadWords(3, 1L << 36, 0, 0);
+        CHECKS.due("fingerprint(3) of bit 36, which 1234 has as bit 4", 1234 ^ 16, desk.fingerprint(3));
         desk.loadWords(3, 0, 0, Long.MIN_VALUE | 5);
         CHECKS.due("fingerprint(3) of bit 191", 1234 ^ 15 ^ 0x80000000, desk.fingerprint(3));
         desk.addRange(3, 0, 1024);
@@ -117,6 +122,6 @@ public final class WordsAndBytesTest {
         same.set(0, 1024);
         same.clear(700);
         CHECKS.due("fingerprint(3) of 1023 members", same.hashCode(), desk.fingerprint(3));
-        CHECKS.noSuchSet("fingerprint()", desk, desk::fingerprint);
+        CHECKS.noSuchSet("fingerprint()", NumberSetDesk::fingerprint);
     }
 }

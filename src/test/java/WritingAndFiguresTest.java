@@ -34,12 +34,26 @@ public final class WritingAndFiguresTest {
         desk.add(3, 0);
         CHECKS.due("the text after add()", "{}", Checks.writtenOn(desk));
         writes(desk, 3, "{0}");
-        CHECKS.noSuchSet("write()", desk, desk::write);
+        CHECKS.noSuchSet("write()", NumberSetDesk::write);
 
+        writesTheLongest();
+    }
+
+    /** In parts, as a desk is used for 512 calls at most. */
+    private static void writesTheLongest() {
         java.util.BitSet all = new java.util.BitSet();
         all.set(0, 1024);
-        desk.addRange(5, 0, 1024);
-        writes(desk, 5, all.toString());
+        String text = all.toString();
+        for (int start = 0; start < text.length(); start += 500) {
+            NumberSetDesk desk = new NumberSetDesk();
+            desk.addRange(5, 0, 1024);
+            CHECKS.due("write(5) of all", text.length(), desk.write(5));
+            for (int index = start; index < start + 500 && index < text.length(); index++) {
+                CHECKS.due("writtenAt(" + index + ") of all", text.charAt(index), desk.writtenAt(index));
+            }
+            CHECKS.throwing("writtenAt() behind all", IndexOutOfBoundsException.class,
+                    () -> desk.writtenAt(text.length()));
+        }
     }
 
     private static void promise53WrittenAt() {
@@ -112,7 +126,7 @@ public final class WritingAndFiguresTest {
         for (int below : new int[] {0, -1, 1025, MIN, MAX}) {
             CHECKS.refused("share(0, " + below + ")", desk, ARGUMENT, 0, () -> desk.share(0, below));
         }
-        CHECKS.noSuchSet("share()", desk, set -> desk.share(set, 10));
+        CHECKS.noSuchSet("share()", (x, set) -> x.share(set, 10));
     }
 
     private static void promise57Errors() {
