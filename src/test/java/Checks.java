@@ -4,6 +4,7 @@ import java.util.function.ObjIntConsumer;
 final class Checks {
     static final int[] NO_SETS = {-1, 8, Integer.MIN_VALUE, Integer.MAX_VALUE};
     private static final int SETS = 8;
+    private static final long LONGEST_TEST_IN_MS = 10 * 60 * 1000;
 
     private final String test;
     private int made = 0;
@@ -11,6 +12,22 @@ final class Checks {
 
     Checks(String test) {
         this.test = test;
+        mustEnd(test);
+    }
+
+    /** A call that does not end must not hold up the tests for ever: the test fails then. */
+    static void mustEnd(String test) {
+        Thread watch = new Thread(() -> {
+            try {
+                Thread.sleep(LONGEST_TEST_IN_MS);
+            } catch (InterruptedException e) {
+                return;
+            }
+            System.out.println(test + " does not end");
+            Runtime.getRuntime().halt(1);
+        });
+        watch.setDaemon(true);
+        watch.start();
     }
 
     void due(String call, long want, long got) {
