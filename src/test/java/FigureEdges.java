@@ -167,6 +167,14 @@ final class FigureEdges {
             sentences.due("share(0, " + below + ")", (float) Math.min(10, below) / (float) below, desk.share(0, below));
             sentences.due("share(7, " + below + ") without members", 0.0f, desk.share(7, below));
         }
+        for (int below = 1; below <= 1024; below++) {
+            NumberSetDesk each = Desks.different();
+            for (int members : new int[] {1, 3, 10, below / 3, below - 1}) {
+                each.removeAll(7);
+                each.addRange(7, 0, Math.min(members, below));
+                sentences.due("share(7, " + below + ") of " + members, (float) Math.min(members, below) / (float) below, each.share(7, below));
+            }
+        }
         sentences.says(56, "Throws `IllegalArgumentException` if there is no such set, or below is out of range");
         for (int below : new int[] {0, -1, -2, MIN, 1025, 1026, 2048, MAX}) {
             sentences.refusesArgument("share(3, " + below + ")", x -> x.share(3, below));

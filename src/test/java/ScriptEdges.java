@@ -341,6 +341,13 @@ final class ScriptEdges {
         fits("d=a;a=[50];", 2, 3, FIRST_TEN);
         fits("a=[1];b=[];c=[2,3];", 3, 2, "{2, 3}");
         fits("d=[" + "5,".repeat(197) + "6];", 1, 3, "{5, 6}");
+        NumberSetDesk again = new NumberSetDesk();
+        for (int n = 6; n < 10; n++) {
+            sentences.due("run() of one more long list", 1, Desks.run(again, "d=[" + "5,".repeat(197) + n + "];"));
+            sentences.due("it leaves", "{5, " + n + "}", Desks.members(again, 3));
+            sentences.due("run() of many short lists", 80, Desks.run(again, "d=[" + n + "];" + "h=[];".repeat(78) + "e=d;"));
+            sentences.due("it leaves", "{" + n + "}", Desks.members(again, 4));
+        }
     }
 
     private void stops() {
@@ -489,6 +496,13 @@ final class ScriptEdges {
         sentences.due("errorPosition() ahead of the next run()", 4, desk.errorPosition());
         Sentences.answer(desk, x -> x.add(3, -1));
         sentences.due("errorPosition() after another call that throws", 4, desk.errorPosition());
+        desk.clearTape();
+        sentences.due("errorPosition() after clearTape()", 4, desk.errorPosition());
+        Checks.type(desk, "d+5;");
+        desk.loadTape(4);
+        desk.write(4);
+        sentences.due("errorPosition() after other calls", 4, desk.errorPosition());
+        Checks.type(desk, "d?");
         Sentences.answer(desk, NumberSetDesk::run);
         sentences.due("errorPosition() of the next", 1, desk.errorPosition());
         sentences.due("errorPosition() once more", 1, desk.errorPosition());
@@ -517,6 +531,12 @@ final class ScriptEdges {
             Checks.type(desk, "d+5;");
             sentences.due("stoppedAt() ahead of the next run()", ahead, desk.stoppedAt());
             desk.clearTape();
+            sentences.due("stoppedAt() after clearTape()", ahead, desk.stoppedAt());
+            Checks.type(desk, "d+5;");
+            desk.loadTape(4);
+            desk.write(4);
+            Sentences.answer(desk, x -> x.add(3, -1));
+            sentences.due("stoppedAt() after other calls", ahead, desk.stoppedAt());
         }
         sentences.says(6, "Returns the number; NONE if it did not stop ahead of the end, its text had an error, or there was no run().");
         sentences.due("stoppedAt() without a run()", NumberSetDesk.NONE, new NumberSetDesk().stoppedAt());
