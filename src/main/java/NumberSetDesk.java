@@ -585,7 +585,7 @@ public final class NumberSetDesk {
         void becomePrimes(int below) {
             clear();
             include(2, below);
-            for (int factor = 2; factor * factor < below; factor++) {
+            for (int factor = 2; factor < LIMIT && factor * factor < below; factor++) {
                 if (holds(factor)) {
                     excludeMultiples(factor, below);
                 }
@@ -593,7 +593,7 @@ public final class NumberSetDesk {
         }
 
         private void excludeMultiples(int factor, int below) {
-            for (int times = factor; times * factor < below; times++) {
+            for (int times = factor; times < LIMIT && times * factor < below; times++) {
                 excludeOne(times * factor);
             }
         }

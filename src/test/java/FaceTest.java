@@ -1,78 +1,27 @@
+import java.io.IOException;
 import java.lang.reflect.Constructor;
 import java.lang.reflect.Field;
 import java.lang.reflect.Member;
 import java.lang.reflect.Method;
 import java.lang.reflect.Modifier;
 import java.lang.reflect.Parameter;
+import java.nio.file.Files;
+import java.nio.file.Path;
 import java.util.Set;
 import java.util.TreeSet;
 
 /** The public face, and the rules 1, 5 and 11 of LANGUAGE.md as far as the compiled class tells them. */
 public final class FaceTest {
-    private static final String[] CALLS = {
-        "int append(int a, int b, int c, int d, int e) throws IllegalStateException",
-        "int clearTape()",
-        "int run() throws IllegalArgumentException",
-        "int errorPosition()",
-        "int stoppedAt()",
-        "boolean add(int set, int index) throws IllegalArgumentException, IndexOutOfBoundsException",
-        "boolean remove(int set, int index) throws IllegalArgumentException, IndexOutOfBoundsException",
-        "boolean put(int set, int index, boolean isMember) throws IllegalArgumentException, IndexOutOfBoundsException",
-        "boolean flip(int set, int index) throws IllegalArgumentException, IndexOutOfBoundsException",
-        "int addRange(int set, int from, int to) throws IllegalArgumentException, IndexOutOfBoundsException",
-        "int removeRange(int set, int from, int to) throws IllegalArgumentException, IndexOutOfBoundsException",
-        "int putRange(int set, int from, int to, boolean isMember) throws IllegalArgumentException, IndexOutOfBoundsException",
-        "int flipRange(int set, int from, int to) throws IllegalArgumentException, IndexOutOfBoundsException",
-        "int removeAll(int set) throws IllegalArgumentException",
-        "int renew(int set, int numbers) throws IllegalArgumentException",
-        "int intersect(int set, int other) throws IllegalArgumentException",
-        "int unite(int set, int other) throws IllegalArgumentException",
-        "int differ(int set, int other) throws IllegalArgumentException",
-        "int subtract(int set, int other) throws IllegalArgumentException",
-        "int copy(int set, int other) throws IllegalArgumentException",
-        "int takePart(int set, int other, int from, int to) throws IllegalArgumentException, IndexOutOfBoundsException",
-        "int shift(int set, int by) throws IllegalArgumentException",
-        "int sieve(int set, int below) throws IllegalArgumentException",
-        "int loadWords(int set, long first, long second, long third) throws IllegalArgumentException",
-        "int loadTape(int set) throws IllegalArgumentException, IllegalStateException",
-        "int wordCount(int set) throws IllegalArgumentException",
-        "long wordAt(int set, int place) throws IllegalArgumentException, IndexOutOfBoundsException",
-        "int byteCount(int set) throws IllegalArgumentException",
-        "int byteAt(int set, int place) throws IllegalArgumentException, IndexOutOfBoundsException",
-        "int fingerprint(int set) throws IllegalArgumentException",
-        "boolean has(int set, int index) throws IllegalArgumentException, IndexOutOfBoundsException",
-        "int count(int set) throws IllegalArgumentException",
-        "int countIn(int set, int from, int to) throws IllegalArgumentException, IndexOutOfBoundsException",
-        "int length(int set) throws IllegalArgumentException",
-        "boolean isEmpty(int set) throws IllegalArgumentException",
-        "boolean isRoomy(int set) throws IllegalArgumentException",
-        "int next(int set, int index) throws IllegalArgumentException, IndexOutOfBoundsException",
-        "int nextMissing(int set, int index) throws IllegalArgumentException, IndexOutOfBoundsException",
-        "int previous(int set, int index) throws IllegalArgumentException, IndexOutOfBoundsException",
-        "int previousMissing(int set, int index) throws IllegalArgumentException, IndexOutOfBoundsException",
-        "int memberAt(int set, int place) throws IllegalArgumentException",
-        "long sum(int set) throws IllegalArgumentException",
-        "int runs(int set) throws IllegalArgumentException",
-        "int longestRun(int set) throws IllegalArgumentException",
-        "boolean areEqual(int set, int other) throws IllegalArgumentException",
-        "boolean meet(int set, int other) throws IllegalArgumentException",
-        "boolean isWithin(int set, int other) throws IllegalArgumentException",
-        "int unionCount(int set, int other) throws IllegalArgumentException",
-        "int distance(int set, int other) throws IllegalArgumentException",
-        "int firstCommon(int set, int other) throws IllegalArgumentException",
-        "int write(int set) throws IllegalArgumentException",
-        "int writtenAt(int index) throws IndexOutOfBoundsException",
-        "int refusals()",
-        "double meanCount()",
-        "float share(int set, int below) throws IllegalArgumentException",
-        "int errors()"
-    };
+    private static final Path DOCUMENT = Path.of("../shared/DOC.md");
     private static final Checks CHECKS = new Checks("FaceTest");
 
-    public static void main(String[] args) {
+    public static void main(String[] args) throws IOException {
         Class<?> face = NumberSetDesk.class;
         CHECKS.due("the modifiers", Modifier.PUBLIC | Modifier.FINAL, face.getModifiers());
         CHECKS.due("the package", "", face.getPackageName());
+        CHECKS.due("the class above", "java.lang.Object", face.getSuperclass().getName());
+        CHECKS.due("the interfaces", 0, face.getInterfaces().length);
+        document();
         calls(face);
         constructors(face);
         fields(face);
@@ -80,12 +29,26 @@ public final class FaceTest {
         CHECKS.end();
     }
 
+    /** What this test looks for is what the document says. */
+    private static void document() throws IOException {
+        if (!Files.isReadable(DOCUMENT)) {
+            System.out.println("the document is not there, so its face is not compared");
+            return;
+        }
+        StringBuilder want = new StringBuilder("public final class NumberSetDesk {\n");
+        want.append("    public static final int NONE = -1;\n    public NumberSetDesk();\n");
+        for (String call : Face.CALLS) {
+            want.append("    public ").append(call).append(";\n");
+        }
+        CHECKS.due("the document has this face", true, Files.readString(DOCUMENT).contains(want.append("}\n")));
+    }
+
     private static void calls(Class<?> face) {
         Set<String> want = new TreeSet<>();
         Set<String> publicNames = new TreeSet<>();
-        for (String call : CALLS) {
+        for (String call : Face.CALLS) {
             want.add(call.replaceAll("(int|long|boolean) \\w+([,)])", "$1$2"));
-            publicNames.add(call.replaceAll("^\\w+ (\\w+).*", "$1"));
+            publicNames.add(Face.nameOf(call));
         }
         Set<String> got = new TreeSet<>();
         for (Method method : face.getDeclaredMethods()) {
