@@ -38,6 +38,9 @@ public final class TogetherTest {
                 twin.askAll((first + second) % 8);
             }
         }
+        for (String call : Face.CALLS) {
+            leaveTheRest(call);
+        }
         for (int n = 0; n < LONG_RUNS; n++) {
             runLong(n);
         }
@@ -322,6 +325,22 @@ public final class TogetherTest {
             x.run("c=[999,1000,9,10,99,100];");
             x.call("write", -1);
         });
+    }
+
+    /** What a call does not tell that it changes stays: the sets, the tape, the text, and what was told of a run(). */
+    private static void leaveTheRest(String call) {
+        RandomArguments arguments = new RandomArguments(call.length());
+        String[] latestRuns = {"", "h^1;h^1;b+1..0;", "b+;"};
+        for (int n = 0; n < 60; n++) {
+            Twin twin = new Twin(CHECKS, "a desk in use, with a run() of " + latestRuns[n % 3]);
+            twin.run("d+0..1023;d+1023;e+1..1023;e+1023;f=[0,64,1023];g+500..700;");
+            twin.call("write", n % 4);
+            twin.run(latestRuns[n % 3]);
+            twin.call("next", 0, -1);
+            twin.type(n % 2 == 0 ? "h+7;" : "h+7;h");
+            twin.call(Face.nameOf(call), arguments.argumentsOf(call));
+            twin.askState();
+        }
     }
 
     /** 512 calls, most of them of a kind that makes the tape or the text long. */

@@ -100,11 +100,33 @@ final class Twin {
         askDesk();
     }
 
-    private void askWordsAndBytes(int set) {
+    /** All that a call could change; the tape must have at most 128 bytes, and is taken. */
+    void askState() {
+        for (int set = 0; set < 8; set++) {
+            askWords(set);
+        }
+        for (String call : new String[] {"refusals", "errorPosition", "stoppedAt"}) {
+            call(call);
+        }
+        int index = 0;
+        while (number("writtenAt", index) != NumberSetDesk.NONE && callsLeft() > 50) {
+            index++;
+        }
+        call("loadTape", 0);
+        askWords(0);
+    }
+
+    private void askWords(int set) {
         int words = number("wordCount", set);
-        for (int place = -1; place <= words; place++) {
+        for (int place = 0; place < words; place++) {
             call("wordAt", set, place);
         }
+    }
+
+    private void askWordsAndBytes(int set) {
+        askWords(set);
+        call("wordAt", set, -1);
+        call("wordAt", set, number("wordCount", set));
         int bytes = number("byteCount", set);
         for (int place : new int[] {-1, 0, 7, 8, bytes - 1, bytes, 128}) {
             call("byteAt", set, place);
